@@ -61,7 +61,7 @@ public final class AdmissionControl {
         if (!isServerValue(setting, value)) {
             return BAD_VALUE;
         }
-        history.record(server);
+        history.keep(server);
         int previous = server.settings.at(setting);
         server.settings.put(setting, value);
         return previous;
@@ -74,7 +74,7 @@ public final class AdmissionControl {
         if (!isClassValue(setting, value)) {
             return BAD_VALUE;
         }
-        history.record(server);
+        history.keep(server);
         Lane lane = server.lane(kind);
         int previous = lane.settings.at(setting);
         lane.settings.put(setting, value);
@@ -86,7 +86,7 @@ public final class AdmissionControl {
         if (error != NO_ERROR) {
             return error;
         }
-        history.record(server);
+        history.keep(server);
         return server.offerNew(kind, shape, cost);
     }
 
@@ -95,7 +95,7 @@ public final class AdmissionControl {
         if (error != NO_ERROR) {
             return error;
         }
-        history.record(server);
+        history.keep(server);
         return server.letPass(ticks);
     }
 
@@ -126,7 +126,7 @@ public final class AdmissionControl {
         if (text.firstFault() != NONE) {
             return BAD_TEXT;
         }
-        history.record(server);
+        history.keep(server);
         int steps = 0;
         for (int place = 0; place < text.length; place++) {
             if (text.startsStep(place)) {
@@ -811,7 +811,7 @@ public final class AdmissionControl {
         private Server oldest = new Server();
         int states = 0;
 
-        void record(Server server) {
+        void keep(Server server) {
             Server room = oldest;
             oldest = third;
             third = second;
