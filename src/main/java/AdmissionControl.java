@@ -281,9 +281,8 @@ public final class AdmissionControl {
     }
 
     public int leastCapacity() {
-        int rejectedSoFar = server.rejectedRequests();
         for (int capacity = 1; capacity <= MOST_CAPACITY; capacity++) {
-            if (ticksOfTrial(capacity) != NONE && trial.rejectedRequests() == rejectedSoFar) {
+            if (trialEndsWithoutRejection(capacity)) {
                 return capacity;
             }
         }
@@ -374,19 +373,27 @@ public final class AdmissionControl {
         return true;
     }
 
-    /** Leaves the trial as it is after these ticks, for the caller to look at. */
-    private int ticksOfTrial(int capacity) {
+    private void beginTrial(int capacity) {
         trial.copyFrom(server);
         trial.settings.put(CAPACITY, capacity);
-        for (int ticks = 0; ticks <= HORIZON; ticks++) {
-            if (trial.isSettled()) {
-                return ticks;
-            }
-            if (ticks < HORIZON) {
-                trial.tick();
-            }
+    }
+
+    private int ticksOfTrial(int capacity) {
+        beginTrial(capacity);
+        int ticks = 0;
+        while (ticks < HORIZON && trial.open > 0) {
+            trial.tick();
+            ticks++;
         }
-        return NONE;
+        return trial.open == 0 ? ticks : NONE;
+    }
+
+    private boolean trialEndsWithoutRejection(int capacity) {
+        beginTrial(capacity);
+        for (int ticks = 0; ticks < HORIZON && trial.open > 0 && trial.rejected == server.rejected; ticks++) {
+            trial.tick();
+        }
+        return trial.open == 0 && trial.rejected == server.rejected;
     }
 
     /** A row of numbers. A place outside it holds 0 for good, so that no index makes the machine throw. */
@@ -527,6 +534,9 @@ public final class AdmissionControl {
         private final Lane lane2 = new Lane();
         private final Request[] slots = new Request[MOST_REQUESTS];
         int count = 0;
+        /** How many requests are neither DONE nor REJECTED. */
+        int open = 0;
+        int rejected = 0;
         int clock = 0;
         int idle = 0;
 
@@ -550,6 +560,8 @@ public final class AdmissionControl {
             lane1.copyFrom(other.lane1);
             lane2.copyFrom(other.lane2);
             count = other.count;
+            open = other.open;
+            rejected = other.rejected;
             clock = other.clock;
             idle = other.idle;
             for (int number = 0; number < count; number++) {
@@ -601,6 +613,7 @@ public final class AdmissionControl {
                 return TOO_MANY;
             }
             count++;
+            open++;
             request.begin(kind, shape, cost);
             return offerNow(request);
         }
@@ -691,6 +704,8 @@ public final class AdmissionControl {
                 request.tick = clock + (settings.at(BACKOFF) << (request.offers - 1));
             } else {
                 request.state = REJECTED;
+                open--;
+                rejected++;
             }
         }
 
@@ -771,6 +786,7 @@ public final class AdmissionControl {
         private void complete(Lane lane, Request request) {
             request.state = DONE;
             request.tick = clock;
+            open--;
             lane.leave(0);
             int estimate = estimates.at(request.shape);
             estimates.put(request.shape, estimate + (SIXTEENTHS * request.cost - estimate) / 4);
@@ -779,27 +795,6 @@ public final class AdmissionControl {
             } else {
                 lane.tokens -= request.cost - request.price;
             }
-        }
-
-        boolean isSettled() {
-            for (int number = 0; number < count; number++) {
-                Request request = find(number);
-                if (request != null && !request.isSettled()) {
-                    return false;
-                }
-            }
-            return true;
-        }
-
-        int rejectedRequests() {
-            int rejected = 0;
-            for (int number = 0; number < count; number++) {
-                Request request = find(number);
-                if (request != null && request.state == REJECTED) {
-                    rejected++;
-                }
-            }
-            return rejected;
         }
     }
 

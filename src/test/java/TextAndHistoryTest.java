@@ -203,7 +203,21 @@ public final class TextAndHistoryTest {
         x.offer(2, 4, 9);
         Check.due("a number is given again", x.price(0), 8);
         Check.due("offers of the new request", x.offers(0), 1);
-        Check.due("work for the new request", x.done(0), 0);
+
+        AdmissionControl y = new AdmissionControl();
+        y.setClass(0, 3, 7);
+        y.offer(0, 0, 20);
+        y.setClass(0, 3, 8);
+        y.advance(5);
+        Check.due("work", y.done(0), 8);
+        y.undo();
+        y.undo();
+        y.undo();
+        y.setClass(0, 3, 8);
+        Check.due("offer", y.offer(0, 0, 20), 0);
+        Check.due("work for the new request", y.done(0), 0);
+        Check.due("reason of the new request", y.reason(0), 0);
+        Check.due("offers of the new request", y.offers(0), 1);
     }
 
     /** Undoes each of many actions at once, in states in which much can be lost. */

@@ -127,6 +127,27 @@ public final class WhatIfTest {
         x.set(RETRIES, 1);
         x.offer(1, 1, 1);
         Check.due("a request that is refused with any CAPACITY", x.leastCapacity(), NONE);
+
+        AdmissionControl y = new AdmissionControl();
+        y.setClass(2, LIMIT, 7);
+        y.offer(2, 0, 1);
+        Check.due("the first request is refused with any CAPACITY", y.leastCapacity(), NONE);
+
+        Check.due("59 units before the tick 3", withTwoAndPatience3(59).leastCapacity(), 20);
+        Check.due("60 units before the tick 3", withTwoAndPatience3(60).leastCapacity(), NONE);
+        Check.due("38 units before the tick 3", withTwoAndPatience3(38).leastCapacity(), 13);
+        Check.due("39 units before the tick 3", withTwoAndPatience3(39).leastCapacity(), 14);
+    }
+
+    /** The second request has to be begun in the tick 2. */
+    private static AdmissionControl withTwoAndPatience3(int cost) {
+        AdmissionControl x = new AdmissionControl();
+        x.set(CAPACITY, 20);
+        x.set(PATIENCE, 3);
+        x.set(RETRIES, 0);
+        x.offer(1, 0, cost);
+        x.offer(1, 0, 1);
+        return x;
     }
 
     private static void promise35Finish() {
