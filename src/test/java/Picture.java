@@ -48,4 +48,14 @@ final class Picture {
         }
         return of(x) + all;
     }
+
+    /** With the states of the history and the text, which are used up by this. */
+    static String toTheEnd(AdmissionControl x) {
+        StringBuilder all = new StringBuilder(withWhatWouldBe(x));
+        for (int undone = 0; undone < 6; undone++) {
+            all.append("\nundo ").append(x.undo()).append(of(x));
+        }
+        all.append("\nrun ").append(x.run()).append(of(x));
+        return all.append("\ntext of ").append(x.clearText()).toString();
+    }
 }
