@@ -304,6 +304,27 @@ public final class EdgesOfWhatIfTest implements Names {
     }
 
     /**
+     * Request 1 is offered again in the tick 3, with a wait of 24 / CAPACITY: 8 is too long, 6 is not. With
+     * 10 units in a tick, request 0 is done before, and its cost makes the price 13, which is above the LIMIT.
+     */
+    static void moreCapacityCanBeWorse() {
+        AdmissionControl x = new AdmissionControl();
+        x.set(PATIENCE, 6);
+        Check.due("offer", x.offer(0, 0, 30), 0);
+        x.setClass(1, LIMIT, 7);
+        Check.due("offer", x.offer(1, 0, 1), 1);
+        x.setClass(1, LIMIT, 12);
+        int[][] rows = {{1, NONE}, {2, NONE}, {3, NONE}, {4, 3}, {5, 3}, {9, 3}, {10, NONE}, {11, NONE}, {20, NONE}};
+        for (int[] row : rows) {
+            x.set(CAPACITY, row[0]);
+            Check.due("finish with CAPACITY " + row[0], x.finish(1), row[1]);
+            Check.due("leastCapacity with CAPACITY " + row[0], x.leastCapacity(), 4);
+        }
+        x.setClass(1, LIMIT, 13);
+        Check.due("finish with CAPACITY 20, LIMIT 13", x.finish(1), 3);
+    }
+
+    /**
      * The second request leaves in the tick 3 and is offered again in the tick 6. With CAPACITY 7, the
      * wait is (1 + 8) * 3 / 7 = 3, and it gets the unit 61, in the tick 8; with CAPACITY 6, the wait is 4.
      */
